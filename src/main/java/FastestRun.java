@@ -53,7 +53,7 @@ public final class FastestRun {
         if (!game.has(x, y) || !Game.isKind(kind)) {
             return false;
         }
-        game.kinds[Game.cellAt(x, y)] = kind;
+        game.setKind(Game.cellAt(x, y), kind);
         beginInChangedGame();
         return true;
     }
@@ -225,7 +225,7 @@ public final class FastestRun {
             return false;
         }
         roads.roads[road].barred = on;
-        roads.forgetLevels();
+        roads.forgetChances();
         return true;
     }
 
@@ -235,7 +235,7 @@ public final class FastestRun {
         }
         roads.goalRoom = room;
         roads.goalThings = things;
-        roads.forgetLevels();
+        roads.forgetChances();
         return true;
     }
 
@@ -244,7 +244,7 @@ public final class FastestRun {
             return false;
         }
         roads.anewPrice = price;
-        roads.forgetLevels();
+        roads.forgetChances();
         return true;
     }
 
@@ -376,6 +376,7 @@ public final class FastestRun {
     /**
      * The board, the foe's round and the beginning. A spot is a cell and the keys in one number, so
      * that searches can use it as an index; what a tick leads to is a spot and an outcome in one.
+     * The board has 64 cells at most, so a set of them is the bits of a long.
      */
     private static final class Game {
         private static final int LEAST_SIZE = 2;
@@ -383,7 +384,10 @@ public final class FastestRun {
         private static final int CELLS = 64;
         private static final int SPOTS = 512;
         private static final int MOST_ROUND = 6;
+        private static final int KEYS = 3;
+        private static final int KEY_SETS = 8;
 
+        private static final int FLOOR = 0;
         private static final int WALL = 1;
         private static final int FIRST_KEY = 2;
         private static final int FIRST_DOOR = 5;
@@ -392,12 +396,22 @@ public final class FastestRun {
         private static final int[] STEP_X = {0, 0, 1, 0, -1};
         private static final int[] STEP_Y = {0, -1, 0, 1, 0};
 
+        private static final long FIRST_COLUMN = 0x0101010101010101L;
+        private static final long LAST_COLUMN = FIRST_COLUMN << (MOST_SIZE - 1);
+
         private final int[] kinds = new int[CELLS];
+        private final long[] openWith = new long[KEY_SETS];
+        private final long[] keyCells = new long[KEYS];
+        private long goalCells;
         private final int[] round = new int[MOST_ROUND];
-        private int width = LEAST_SIZE;
-        private int height = LEAST_SIZE;
+        private int width;
+        private int height;
         private int roundLength;
         private int startCell;
+
+        Game() {
+            lay(LEAST_SIZE, LEAST_SIZE);
+        }
 
         static boolean isSize(int size) {
             return size >= LEAST_SIZE && size <= MOST_SIZE;
@@ -438,9 +452,42 @@ public final class FastestRun {
         void lay(int w, int h) {
             width = w;
             height = h;
-            Arrays.fill(kinds, 0);
             roundLength = 0;
             startCell = 0;
+            Arrays.fill(kinds, FLOOR);
+            Arrays.fill(openWith, allCells());
+            Arrays.fill(keyCells, 0L);
+            goalCells = 0L;
+        }
+
+        private long allCells() {
+            long cells = 0L;
+            for (int y = 0; y < height; y++) {
+                for (int x = 0; x < width; x++) {
+                    cells |= 1L << cellAt(x, y);
+                }
+            }
+            return cells;
+        }
+
+        /** Keeps the sets of cells in step, so that no search has to gather them. */
+        void setKind(int cell, int kind) {
+            if (cell < 0 || cell >= CELLS) {
+                return;
+            }
+            kinds[cell] = kind;
+            for (int keys = 0; keys < KEY_SETS; keys++) {
+                openWith[keys] = with(openWith[keys], cell, lets(kind, keys));
+            }
+            for (int key = 0; key < KEYS; key++) {
+                keyCells[key] = with(keyCells[key], cell, kind == FIRST_KEY + key);
+            }
+            goalCells = with(goalCells, cell, kind == GOAL);
+        }
+
+        private static long with(long cells, int cell, boolean on) {
+            long bit = 1L << cell;
+            return on ? cells | bit : cells & ~bit;
         }
 
         boolean has(int x, int y) {
@@ -493,6 +540,27 @@ public final class FastestRun {
             return lets(kinds[to], keys) ? to : from;
         }
 
+        /** Where runners from these cells, all with the same keys, can be after the tick, uncaught. */
+        long allAfter(long from, int keys, int tick) {
+            if (roundLength == 0) {
+                return from | allMoved(from, keys);
+            }
+            long foeBefore = 1L << foeCell(tick);
+            long foeNow = 1L << foeCell(tick + 1);
+            long aside = allMoved(from & ~foeNow, keys);
+            long towards = allMoved(from & foeNow, keys) & ~foeBefore;
+            return (from | aside | towards) & ~foeNow;
+        }
+
+        private long allMoved(long from, int keys) {
+            if (keys < 0 || keys >= KEY_SETS) {
+                return 0L;
+            }
+            long upAndDown = from >>> MOST_SIZE | from << MOST_SIZE;
+            long rightAndLeft = (from & ~LAST_COLUMN) << 1 | (from & ~FIRST_COLUMN) >>> 1;
+            return (upAndDown | rightAndLeft) & openWith[keys];
+        }
+
         private static boolean lets(int kind, int keys) {
             if (kind >= FIRST_DOOR && kind < GOAL) {
                 return (keys >> (kind - FIRST_DOOR) & 1) == 1;
@@ -530,10 +598,9 @@ public final class FastestRun {
         private final Row row = new Row(NODES);
         private int queued;
 
-        /** Whether there is a row; it is left in row. */
+        /** Whether there is a row; it is left in row, which is to be empty before. */
         boolean find(Game game, int spot, int tick) {
             int turns = Math.max(game.roundLength, 1);
-            row.clear();
             Arrays.fill(cameFrom, UNSEEN);
             queued = 0;
             reach(Math.floorMod(tick, turns) * Game.SPOTS + spot, ROOT, 0);
@@ -595,11 +662,9 @@ public final class FastestRun {
         private final int[] latest = new int[MOST];
         private int length;
 
-        // Per spot the most splits done there, NONE where the runner can't be (or it is no use).
-        private int[] here = new int[Game.SPOTS];
-        private int[] ahead = new int[Game.SPOTS];
-        private int most;
-        private boolean someAhead;
+        // The cells where the runner can be, for each number of splits done and each set of keys.
+        private long[] here = new long[(MOST + 1) * Game.KEY_SETS];
+        private long[] ahead = new long[(MOST + 1) * Game.KEY_SETS];
 
         void clear() {
             length = 0;
@@ -616,53 +681,67 @@ public final class FastestRun {
             return true;
         }
 
-        /** Of rows that are at one spot at one tick only one with the most splits done can matter. */
         int mostTogether(Game game) {
-            most = 0;
-            someAhead = false;
-            Arrays.fill(ahead, NONE);
-            arrive(game.startSpot(), 0, 0, false);
-            for (int tick = 0; tick < LAST_TICK && someAhead && most < length; tick++) {
-                int[] past = here;
+            Arrays.fill(ahead, 0L);
+            ahead[0] = 1L << game.startCell;
+            int most = countDone(0, 0);
+            boolean someGoOn = true;
+            for (int tick = 0; tick < LAST_TICK && someGoOn && most < length; tick++) {
+                long[] past = here;
                 here = ahead;
                 ahead = past;
-                Arrays.fill(ahead, NONE);
-                someAhead = false;
-                goOn(game, tick);
+                Arrays.fill(ahead, 0L);
+                someGoOn = goOn(game, tick);
+                most = countDone(tick + 1, most);
             }
             return most;
         }
 
-        private void goOn(Game game, int tick) {
-            for (int spot = 0; spot < Game.SPOTS; spot++) {
-                if (here[spot] == NONE) {
+        /** Counts a split as soon as it can be: who has done more can do all that others still can. */
+        private int countDone(int tick, int mostBefore) {
+            int most = mostBefore;
+            for (int split = 0; split < length; split++) {
+                if (tick < earliest[split] || tick > latest[split]) {
                     continue;
                 }
-                for (int press = 0; press < PRESS_KINDS; press++) {
-                    int after = game.after(spot, tick, press);
-                    int outcome = Game.outcomeOf(after);
-                    if (outcome != CAUGHT) {
-                        arrive(Game.spotOf(after), tick + 1, here[spot], outcome == ENDED);
+                for (int keys = 0; keys < Game.KEY_SETS; keys++) {
+                    int place = split * Game.KEY_SETS + keys;
+                    long done = ahead[place] & 1L << cells[split];
+                    ahead[place] &= ~done;
+                    ahead[place + Game.KEY_SETS] |= done;
+                    if (done != 0L) {
+                        most = Math.max(most, split + 1);
                     }
                 }
             }
+            return most;
         }
 
-        private void arrive(int spot, int tick, int doneBefore, boolean over) {
-            int done = doneBefore;
-            while (done < length && isDoneBy(done, Game.cellOf(spot), tick)) {
-                done++;
+        /** Whether there is a runner that can still do its next split. */
+        private boolean goOn(Game game, int tick) {
+            // A goal at the beginning is not reached.
+            long over = tick == 0 ? 0L : game.goalCells;
+            boolean someGoOn = false;
+            for (int done = 0; done < length; done++) {
+                for (int keys = 0; keys < Game.KEY_SETS && tick < latest[done]; keys++) {
+                    long from = here[done * Game.KEY_SETS + keys] & ~over;
+                    if (from != 0L) {
+                        arrive(game, game.allAfter(from, keys, tick), done, keys);
+                        someGoOn = true;
+                    }
+                }
             }
-            most = Math.max(most, done);
-            boolean canDoMore = !over && done < length && tick < latest[done];
-            if (canDoMore && done > ahead[spot]) {
-                ahead[spot] = done;
-                someAhead = true;
-            }
+            return someGoOn;
         }
 
-        private boolean isDoneBy(int split, int cell, int tick) {
-            return cells[split] == cell && tick >= earliest[split] && tick <= latest[split];
+        private void arrive(Game game, long to, int done, int keys) {
+            long withoutKey = to;
+            for (int key = 0; key < Game.KEYS; key++) {
+                long onKey = to & game.keyCells[key];
+                ahead[done * Game.KEY_SETS + (keys | 1 << key)] |= onKey;
+                withoutKey &= ~onKey;
+            }
+            ahead[done * Game.KEY_SETS + keys] |= withoutKey;
         }
     }
 
@@ -710,7 +789,8 @@ public final class FastestRun {
         private static final int MOST_ROADS = 40;
         private static final int ROOMS = 10;
         private static final int THINGS = 16;
-        private static final int STANDS = 160;
+        private static final int STANDS = ROOMS * THINGS;
+        private static final int MOST_STEPS = MOST_ROADS * THINGS;
         private static final int MOST_TICKS = 100;
         private static final int MOST_LEFT = 300;
         private static final int ALL = 1 << 30;
@@ -725,9 +805,18 @@ public final class FastestRun {
         private final int[] fewest = new int[STANDS];
 
         // A chance asks only for those with fewer ticks left, so levels are filled from 0 left up
-        // and stay right until the roads, the goal or the price change.
+        // and stay right until the roads, the goal or the price change. Of the stands only those
+        // are worked out that can follow one that was asked for.
         private final int[] chances = new int[STANDS * (MOST_LEFT + 1)];
         private int knownLevels;
+        private final int[] stands = new int[STANDS];
+        private final boolean[] isListed = new boolean[STANDS];
+        private int standCount;
+
+        // What can be gone from the listed stands: a road, and the things with which it is gone.
+        private final int[] stepRoads = new int[MOST_STEPS];
+        private final int[] stepThings = new int[MOST_STEPS];
+        private int stepCount;
 
         RoadMap() {
             for (int i = 0; i < MOST_ROADS; i++) {
@@ -772,13 +861,17 @@ public final class FastestRun {
         }
 
         int openNext() {
-            forgetLevels();
+            forgetChances();
             length++;
             return length - 1;
         }
 
-        void forgetLevels() {
-            knownLevels = 0;
+        void forgetChances() {
+            stepCount = 0;
+            for (int i = 0; i < standCount; i++) {
+                isListed[stands[i]] = false;
+            }
+            standCount = 0;
         }
 
         private boolean isMet(int room, int things) {
@@ -831,6 +924,7 @@ public final class FastestRun {
         }
 
         int greatest(int room, int things, int left) {
+            listFrom(standAt(room, things));
             fillLevels(left);
             return chanceAt(standAt(room, things), left);
         }
@@ -849,32 +943,68 @@ public final class FastestRun {
             return ANEW;
         }
 
+        /** A stand listed late has no chances at the levels that are known, so these go. */
+        private void listFrom(int stand) {
+            if (isListed[stand]) {
+                return;
+            }
+            knownLevels = 0;
+            int unseen = standCount;
+            addStand(stand);
+            if (anewPrice > 0) {
+                addStand(standAt(0, 0));
+            }
+            for (int i = unseen; i < standCount && i < STANDS; i++) {
+                listSteps(stands[i] / THINGS, stands[i] % THINGS);
+            }
+        }
+
+        private void addStand(int stand) {
+            if (!isListed[stand] && standCount < STANDS) {
+                isListed[stand] = true;
+                stands[standCount] = stand;
+                standCount++;
+            }
+        }
+
+        private void listSteps(int room, int things) {
+            for (int i = 0; i < length && !isMet(room, things); i++) {
+                Road road = roads[i];
+                if (!road.isOpenFor(room, things) || stepCount >= MOST_STEPS) {
+                    continue;
+                }
+                stepRoads[stepCount] = i;
+                stepThings[stepCount] = things;
+                stepCount++;
+                addStand(standAt(road.to, things | road.gives));
+                if (!road.isSure()) {
+                    addStand(standAt(road.failRoom, things));
+                }
+            }
+        }
+
         private void fillLevels(int left) {
             for (int level = knownLevels; level <= left && level <= MOST_LEFT; level++) {
                 fillWithoutRoads(level);
-                for (int i = 0; i < length; i++) {
-                    raiseBy(roads[i], level);
-                }
+                raiseByRoads(level);
                 knownLevels = level + 1;
             }
         }
 
         private void fillWithoutRoads(int level) {
             int byAnew = anewPrice > 0 ? chanceAt(standAt(0, 0), level - anewPrice) : 0;
-            for (int room = 0; room < ROOMS; room++) {
-                for (int things = 0; things < THINGS; things++) {
-                    int chance = isMet(room, things) ? ALL : byAnew;
-                    chances[level * STANDS + standAt(room, things)] = chance;
-                }
+            for (int i = 0; i < standCount; i++) {
+                int stand = stands[i];
+                boolean met = isMet(stand / THINGS, stand % THINGS);
+                chances[level * STANDS + stand] = met ? ALL : byAnew;
             }
         }
 
-        private void raiseBy(Road road, int level) {
-            for (int things = 0; things < THINGS; things++) {
-                if (road.isOpenFor(road.from, things)) {
-                    int place = level * STANDS + standAt(road.from, things);
-                    chances[place] = Math.max(chances[place], worth(road, things, level));
-                }
+        private void raiseByRoads(int level) {
+            for (int i = 0; i < stepCount; i++) {
+                Road road = roads[stepRoads[i]];
+                int place = level * STANDS + standAt(road.from, stepThings[i]);
+                chances[place] = Math.max(chances[place], worth(road, stepThings[i], level));
             }
         }
 

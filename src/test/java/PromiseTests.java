@@ -29,6 +29,7 @@ public final class PromiseTests {
         promise18Unsplit();
         promise19Could();
         promise19CouldEdges();
+        promise19CouldAtTheEdge();
         promise20Road();
         promise21Bar();
         promise22Goal();
@@ -385,6 +386,16 @@ public final class PromiseTests {
         Check.due("9 the foe as it was", f.state(5), 3);
         claimAll(f, 2);
         Check.due("9 the presses as they were", f.differs(), NONE);
+        f.unclaim();
+        f.back(1);
+        claimAll(f, 2, 2, 2);
+        Check.due("9 all of the presses as they were", f.differs(), NONE);
+        f.begin();
+        duePresses("9 other presses", f, 0, 4, 1, 0);
+        f.back(1);
+        Check.due("9 not the other ones", f.differs(), NONE);
+        f.back(0);
+        Check.due("9 fewer than the claim", f.differs(), 2);
         duePresses("9 on from there", f, 0, 0);
         Check.due("9 what is kept stays as it was", f.back(0), true);
         dueState("9 again", f, 1, 0, 1, 1, 0);
@@ -473,6 +484,14 @@ public final class PromiseTests {
         g.cell(2, 0, 8);
         g.foe(2, 0);
         Check.due("11 the foe on the goal", g.least(), NONE);
+        g.foe(2, 0);
+        g.foe(2, 0);
+        g.foe(2, 1);
+        Check.due("11 gone from it at tick 3", g.least(), 3);
+        dueBest("11 gone from it at tick 3", g, 0, 2, 2);
+        duePresses("11", g, 0, 0, 0, 0);
+        Check.due("11 gone from it in the next round", g.least(), 4);
+        dueBest("11 gone from it in the next round", g, 0, 0, 2, 2);
         FastestRun h = onBoard(8, 8);
         h.cell(7, 7, 8);
         for (int i = 0; i < 490; i++) {
@@ -697,6 +716,41 @@ public final class PromiseTests {
         h.cell(0, 1, 2);
         Check.due("19 by way of the key", couldOf(h, new int[] {2, 0, 0, 4}, new int[] {0, 1, 5, 7}), 2);
         Check.due("19 not before the key", couldOf(h, new int[] {2, 0, 0, 3}), 0);
+        for (int key = 0; key < 3; key++) {
+            h.cell(0, 1, 2 + key);
+            for (int door = 0; door < 3; door++) {
+                h.cell(1, 0, 5 + door);
+                int want = key == door ? 1 : 0;
+                Check.due("19 key " + key + ", door " + door, couldOf(h, new int[] {2, 0, 0, 4}), want);
+            }
+        }
+    }
+
+    private static void promise19CouldAtTheEdge() {
+        FastestRun f = onBoard(8, 8);
+        f.start(7, 3);
+        Check.due("19 no step over the right edge", couldOf(f, new int[] {0, 4, 0, 7}), 0);
+        Check.due("19 as far as it is", couldOf(f, new int[] {0, 4, 0, 8}), 1);
+        f.start(0, 3);
+        Check.due("19 no step over the left edge", couldOf(f, new int[] {7, 2, 0, 7}), 0);
+        Check.due("19 as far as it is again", couldOf(f, new int[] {7, 2, 0, 8}), 1);
+        f.start(3, 0);
+        Check.due("19 no step over the upper edge", couldOf(f, new int[] {3, 7, 0, 6}), 0);
+        FastestRun g = onBoard(3, 3);
+        for (int i = 0; i < 3; i++) {
+            g.cell(i, 1, 1);
+        }
+        Check.due("19 no way round a wall, right", couldOf(g, new int[] {2, 2, 0, 200}), 0);
+        FastestRun h = onBoard(3, 3);
+        for (int i = 0; i < 3; i++) {
+            h.cell(1, i, 1);
+        }
+        Check.due("19 no way round a wall, below", couldOf(h, new int[] {2, 2, 0, 200}), 0);
+        FastestRun k = onBoard(8, 8);
+        k.cell(1, 1, 8);
+        k.cell(0, 1, 1);
+        k.board(3, 3);
+        Check.due("19 a new board is floor", couldOf(k, new int[] {1, 1, 2, 2}, new int[] {0, 1, 3, 3}), 2);
     }
 
     private static void promise20Road() {
