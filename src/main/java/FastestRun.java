@@ -706,7 +706,7 @@ public final class FastestRun {
                 }
                 for (int keys = 0; keys < Game.KEY_SETS; keys++) {
                     int place = split * Game.KEY_SETS + keys;
-                    long done = ahead[place] & 1L << cells[split];
+                    long done = ahead[place] & (1L << cells[split]);
                     ahead[place] &= ~done;
                     ahead[place + Game.KEY_SETS] |= done;
                     if (done != 0L) {
