@@ -2,12 +2,13 @@ import java.util.Random;
 
 /** Long runs of calls, drawn with told seeds, on the program and on the slow model side by side. */
 public final class ModelTests {
-    private static final int RUNS = 1500;
-    private static final int CALLS = 250;
+    private static final int RUNS = 2000;
+    // No step makes more calls of its desk, so that each of them ends within what the document speaks of.
+    private static final int CALLS_OF_A_STEP = 12;
 
     private final Random random;
     private final String name;
-    private final FastestRun f = new FastestRun();
+    private final Desk f = new Desk();
     private final SlowModel m = new SlowModel();
     private int w = 2;
     private int h = 2;
@@ -21,7 +22,7 @@ public final class ModelTests {
         for (int seed = 0; seed < RUNS && !Check.failed(); seed++) {
             ModelTests test = new ModelTests(seed);
             // One half each, as calls of the two halves of the desk do not touch one another.
-            for (int i = 0; i < CALLS && !Check.failed(); i++) {
+            for (int i = 0; test.f.callsLeft() >= CALLS_OF_A_STEP && !Check.failed(); i++) {
                 if (seed % 2 == 0) {
                     test.callOfGame(i);
                 } else {
@@ -97,11 +98,13 @@ public final class ModelTests {
             m.begin();
         } else {
             Check.due(name + "least", f.least(), m.least());
-            for (int k = 0; k < 12; k++) {
+            for (int i = 0; i < 4; i++) {
+                int k = near(0, 11);
                 Check.due(name + "best " + k, f.best(k), m.best(k));
             }
         }
-        for (int what = -1; what <= 7; what++) {
+        for (int i = 0; i < 2; i++) {
+            int what = near(0, 6);
             Check.due(name + "state " + what, f.state(what), m.state(what));
         }
     }
@@ -129,7 +132,7 @@ public final class ModelTests {
         f.begin();
         m.begin();
         Check.due(name + "least", f.least(), m.least());
-        for (int k = 0; m.best(k) != FastestRun.NONE; k++) {
+        for (int k = 0; m.best(k) != FastestRun.NONE && f.callsLeft() >= CALLS_OF_A_STEP; k++) {
             Check.due(name + "claim of best", f.claim(f.best(k)), m.claim(m.best(k)));
             if (random.nextInt(8) > 0) {
                 Check.due(name + "press of best", f.press(f.best(k)), m.press(m.best(k)));
@@ -150,9 +153,8 @@ public final class ModelTests {
         } else if (kind < 111) {
             Check.due(name + "could", f.could(), m.could());
         }
-        for (int what = -1; what <= 6; what++) {
-            Check.due(name + "count " + what, f.count(what), m.count(what));
-        }
+        int what = near(0, 5);
+        Check.due(name + "count " + what, f.count(what), m.count(what));
     }
 
     private void callOfRoads(int i) {
@@ -184,7 +186,11 @@ public final class ModelTests {
         int[] r = {
             near(0, 5), near(0, 5), near(0, 15) & near(0, 15), near(0, 15) & near(0, 15),
             near(1, mostTicks), odds, near(0, 5), near(1, mostTicks)};
-        Check.due(name + "road", f.road(r[0], r[1], r[2], r[3], r[4], r[5], r[6], r[7]), m.road(r));
+        Check.due(name + "road", roadOf(f, r), roadOf(m, r));
+    }
+
+    private static int roadOf(Face desk, int[] r) {
+        return desk.road(r[0], r[1], r[2], r[3], r[4], r[5], r[6], r[7]);
     }
 
     private void askRoads() {

@@ -42,60 +42,27 @@ public final class PromiseTests {
         Check.end();
     }
 
-    private static void dueState(String when, FastestRun f, int x, int y, int keys, int tick, int how) {
-        Check.due(when + ": x", f.state(0), x);
-        Check.due(when + ": y", f.state(1), y);
-        Check.due(when + ": keys", f.state(2), keys);
-        Check.due(when + ": tick", f.state(3), tick);
-        Check.due(when + ": how", f.state(4), how);
-    }
-
-    private static void duePresses(String when, FastestRun f, int want, int... presses) {
-        for (int press : presses) {
-            Check.due(when + ": press " + press, f.press(press), want);
-        }
-    }
-
-    private static void dueBest(String when, FastestRun f, int... row) {
-        for (int k = 0; k < row.length; k++) {
-            Check.due(when + ": best " + k, f.best(k), row[k]);
-        }
-        Check.due(when + ": best behind the row", f.best(row.length), NONE);
-    }
-
-    private static void claimAll(FastestRun f, int... presses) {
-        for (int press : presses) {
-            f.claim(press);
-        }
-    }
-
-    private static FastestRun onBoard(int w, int h) {
-        FastestRun f = new FastestRun();
-        f.board(w, h);
-        return f;
-    }
-
     private static void promise1NewObject() {
-        FastestRun f = new FastestRun();
+        Desk f = new Desk();
         Check.due("1 NONE", NONE, -1);
         int[] counts = {2, 2, 0, 0, 0, 0};
         for (int what = 0; what < counts.length; what++) {
             Check.due("1 count " + what, f.count(what), counts[what]);
         }
-        dueState("1 new", f, 0, 0, 0, 0, 0);
+        Edges.dueState("1 new", f, 0, 0, 0, 0, 0);
         Check.due("1 no foe", f.state(5), NONE);
         Check.due("1 no row", f.best(0), NONE);
         Check.due("1 nothing is kept", f.back(0), false);
         Check.due("1 floor has no end", f.least(), NONE);
-        duePresses("1 all floor", f, 0, 2, 3, 4, 1);
-        dueState("1 once round", f, 0, 0, 0, 4, 0);
+        Edges.duePresses("1 all floor", f, 0, 2, 3, 4, 1);
+        Edges.dueState("1 once round", f, 0, 0, 0, 4, 0);
         Check.due("1 the goal is room 0", f.sure(), 0);
         Check.due("1 the goal is met", f.chance(0, 0, 0), ALL);
         Check.due("1 no anew", f.chance(1, 0, 300), 0);
     }
 
     private static void promise2Board() {
-        FastestRun f = new FastestRun();
+        Desk f = new Desk();
         int[][] wrong = {{1, 2}, {2, 1}, {9, 8}, {8, 9}, {0, 0}, {-2, -2}, {MIN, 2}, {2, MAX}};
         f.press(2);
         f.split(1, 1, 0, 9);
@@ -103,7 +70,7 @@ public final class PromiseTests {
         for (int[] size : wrong) {
             Check.due("2 board " + size[0] + " " + size[1], f.board(size[0], size[1]), false);
         }
-        dueState("2 refused boards change nothing", f, 1, 0, 0, 1, 0);
+        Edges.dueState("2 refused boards change nothing", f, 1, 0, 0, 1, 0);
         Check.due("2 refused: width", f.count(0), 2);
         Check.due("2 refused: claim", f.count(3), 1);
         Check.due("2 refused: splits", f.count(4), 1);
@@ -112,7 +79,7 @@ public final class PromiseTests {
         Check.due("2 height", f.count(1), 8);
         Check.due("2 no claim", f.count(3), 0);
         Check.due("2 no splits", f.count(4), 0);
-        dueState("2 the run begins", f, 0, 0, 0, 0, 0);
+        Edges.dueState("2 the run begins", f, 0, 0, 0, 0, 0);
         f.cell(1, 0, 1);
         f.foe(7, 7);
         f.start(3, 3);
@@ -123,27 +90,27 @@ public final class PromiseTests {
         Check.due("2 no foe to see", f.state(5), NONE);
         Check.due("2 nothing kept", f.back(0), false);
         Check.due("2 roads stay", f.count(5), 1);
-        dueState("2 begins at 0 0", f, 0, 0, 0, 0, 0);
-        duePresses("2 all floor", f, 0, 2);
-        dueState("2 the wall is gone", f, 1, 0, 0, 1, 0);
+        Edges.dueState("2 begins at 0 0", f, 0, 0, 0, 0, 0);
+        Edges.duePresses("2 all floor", f, 0, 2);
+        Edges.dueState("2 the wall is gone", f, 1, 0, 0, 1, 0);
     }
 
     private static void promise3Cell() {
-        FastestRun f = onBoard(3, 2);
+        Desk f = Desk.onBoard(3, 2);
         int[][] wrong = {{-1, 0, 0}, {0, -1, 0}, {3, 0, 0}, {0, 2, 0}, {0, 0, -1}, {0, 0, 9}, {MIN, MAX, 1}, {0, 0, MAX}};
         f.press(2);
         f.save(1);
         for (int[] c : wrong) {
             Check.due("3 cell " + c[0] + " " + c[1] + " " + c[2], f.cell(c[0], c[1], c[2]), false);
         }
-        dueState("3 refused cells change nothing", f, 1, 0, 0, 1, 0);
+        Edges.dueState("3 refused cells change nothing", f, 1, 0, 0, 1, 0);
         Check.due("3 refused: kept", f.back(1), true);
         f.claim(2);
         f.split(0, 0, 0, 0);
         for (int kind = 0; kind <= 8; kind++) {
             Check.due("3 kind " + kind, f.cell(2, 1, kind), true);
         }
-        dueState("3 the run begins anew", f, 0, 0, 0, 0, 0);
+        Edges.dueState("3 the run begins anew", f, 0, 0, 0, 0, 0);
         Check.due("3 nothing kept", f.back(1), false);
         Check.due("3 the claim stays", f.count(3), 1);
         Check.due("3 splits stay", f.count(4), 1);
@@ -161,7 +128,7 @@ public final class PromiseTests {
     }
 
     private static void promise4Foe() {
-        FastestRun f = onBoard(3, 2);
+        Desk f = Desk.onBoard(3, 2);
         int[][] wrong = {{-1, 0}, {0, -1}, {3, 0}, {0, 2}, {MAX, MIN}};
         f.press(2);
         f.save(2);
@@ -191,135 +158,133 @@ public final class PromiseTests {
     }
 
     private static void promise5Start() {
-        FastestRun f = onBoard(3, 2);
+        Desk f = Desk.onBoard(3, 2);
         f.press(2);
         f.save(3);
         int[][] wrong = {{-1, 0}, {0, -1}, {3, 0}, {0, 2}, {MIN, MIN}};
         for (int[] c : wrong) {
             Check.due("5 start " + c[0] + " " + c[1], f.start(c[0], c[1]), false);
         }
-        dueState("5 refused starts change nothing", f, 1, 0, 0, 1, 0);
+        Edges.dueState("5 refused starts change nothing", f, 1, 0, 0, 1, 0);
         Check.due("5 refused: kept", f.back(3), true);
         Check.due("5 start 2 1", f.start(2, 1), true);
-        dueState("5 begins there", f, 2, 1, 0, 0, 0);
+        Edges.dueState("5 begins there", f, 2, 1, 0, 0, 0);
         Check.due("5 nothing kept", f.back(3), false);
         f.cell(2, 1, 1);
-        dueState("5 in a wall", f, 2, 1, 0, 0, 0);
-        duePresses("5 out of a wall", f, 0, 0, 4);
-        dueState("5 out of a wall", f, 1, 1, 0, 2, 0);
-        duePresses("5 and not back", f, 0, 2);
-        dueState("5 and not back", f, 1, 1, 0, 3, 0);
+        Edges.dueState("5 in a wall", f, 2, 1, 0, 0, 0);
+        Edges.duePresses("5 out of a wall", f, 0, 0, 4);
+        Edges.dueState("5 out of a wall", f, 1, 1, 0, 2, 0);
+        Edges.duePresses("5 and not back", f, 0, 2);
+        Edges.dueState("5 and not back", f, 1, 1, 0, 3, 0);
         f.cell(2, 1, 3);
-        dueState("5 a key there isn't taken", f, 2, 1, 0, 0, 0);
-        duePresses("5 but by a tick there", f, 0, 0);
-        dueState("5 but by a tick there", f, 2, 1, 2, 1, 0);
+        Edges.dueState("5 a key there isn't taken", f, 2, 1, 0, 0, 0);
+        Edges.duePresses("5 but by a tick there", f, 0, 0);
+        Edges.dueState("5 but by a tick there", f, 2, 1, 2, 1, 0);
         f.cell(2, 1, 8);
-        dueState("5 a goal there isn't reached", f, 2, 1, 0, 0, 0);
-        duePresses("5 but by a tick there", f, 2, 0);
+        Edges.dueState("5 a goal there isn't reached", f, 2, 1, 0, 0, 0);
+        Edges.duePresses("5 but by a tick there", f, 2, 0);
         f.cell(2, 1, 0);
         f.foe(2, 1);
-        dueState("5 a foe there does nothing", f, 2, 1, 0, 0, 0);
-        duePresses("5 one can leave it", f, 0, 4);
+        Edges.dueState("5 a foe there does nothing", f, 2, 1, 0, 0, 0);
+        Edges.duePresses("5 one can leave it", f, 0, 4);
         f.begin();
-        duePresses("5 or be caught there", f, 1, 0);
+        Edges.duePresses("5 or be caught there", f, 1, 0);
     }
 
     private static void promise6Press() {
-        FastestRun f = onBoard(3, 3);
+        Desk f = Desk.onBoard(3, 3);
         f.start(1, 1);
         for (int wrong : new int[] {-1, 5, MIN, MAX}) {
             Check.due("6 press " + wrong, f.press(wrong), NONE);
         }
-        dueState("6 wrong presses do nothing", f, 1, 1, 0, 0, 0);
+        Edges.dueState("6 wrong presses do nothing", f, 1, 1, 0, 0, 0);
         int[][] ways = {{1, 1}, {1, 0}, {2, 1}, {1, 2}, {0, 1}};
         for (int press = 0; press < 5; press++) {
             f.begin();
-            duePresses("6 way " + press, f, 0, press);
-            dueState("6 way " + press, f, ways[press][0], ways[press][1], 0, 1, 0);
-            duePresses("6 to the edge " + press, f, 0, press);
-            dueState("6 to the edge " + press, f, ways[press][0], ways[press][1], 0, 2, 0);
+            Edges.duePresses("6 way " + press, f, 0, press);
+            Edges.dueState("6 way " + press, f, ways[press][0], ways[press][1], 0, 1, 0);
+            Edges.duePresses("6 to the edge " + press, f, 0, press);
+            Edges.dueState("6 to the edge " + press, f, ways[press][0], ways[press][1], 0, 2, 0);
         }
         f.cell(2, 1, 1);
-        duePresses("6 against a wall", f, 0, 2);
-        dueState("6 against a wall", f, 1, 1, 0, 1, 0);
+        Edges.duePresses("6 against a wall", f, 0, 2);
+        Edges.dueState("6 against a wall", f, 1, 1, 0, 1, 0);
         f.cell(1, 0, 8);
-        duePresses("6 the goal", f, 2, 1);
-        dueState("6 the goal", f, 1, 0, 0, 1, 2);
-        duePresses("6 over", f, NONE, 0, 1, 3);
-        dueState("6 over", f, 1, 0, 0, 1, 2);
-        f.begin();
-        for (int i = 0; i < 500; i++) {
-            f.press(0);
-        }
-        Check.due("6 tick 500", f.state(3), 500);
-        duePresses("6 there were 500", f, NONE, 0, 1);
-        dueState("6 there were 500", f, 1, 1, 0, 500, 0);
+        Edges.duePresses("6 the goal", f, 2, 1);
+        Edges.dueState("6 the goal", f, 1, 0, 0, 1, 2);
+        Edges.duePresses("6 over", f, NONE, 0, 1, 3);
+        Edges.dueState("6 over", f, 1, 0, 0, 1, 2);
+        Desk g = new Desk();
+        Edges.idle(g, 500);
+        Check.due("6 tick 500", g.state(3), 500);
+        Edges.duePresses("6 there were 500", g, NONE, 0, 2);
+        Edges.dueState("6 there were 500", g, 0, 0, 0, 500, 0);
     }
 
     private static void promise6Keys() {
         for (int key = 0; key < 3; key++) {
-            FastestRun f = onBoard(5, 2);
+            Desk f = Desk.onBoard(5, 2);
             f.cell(1, 0, 2 + key);
             f.cell(2, 0, 5 + key);
             f.cell(3, 0, 5 + (key + 1) % 3);
-            duePresses("6 key " + key, f, 0, 2, 2);
-            dueState("6 through door " + key, f, 2, 0, 1 << key, 2, 0);
-            duePresses("6 the other door " + key, f, 0, 2);
-            dueState("6 the other door " + key, f, 2, 0, 1 << key, 3, 0);
-            duePresses("6 again on the key " + key, f, 0, 4);
-            dueState("6 it stays there " + key, f, 1, 0, 1 << key, 4, 0);
+            Edges.duePresses("6 key " + key, f, 0, 2, 2);
+            Edges.dueState("6 through door " + key, f, 2, 0, 1 << key, 2, 0);
+            Edges.duePresses("6 the other door " + key, f, 0, 2);
+            Edges.dueState("6 the other door " + key, f, 2, 0, 1 << key, 3, 0);
+            Edges.duePresses("6 again on the key " + key, f, 0, 4);
+            Edges.dueState("6 it stays there " + key, f, 1, 0, 1 << key, 4, 0);
             f.begin();
-            duePresses("6 round the key " + key, f, 0, 3, 2, 2, 1);
-            dueState("6 no key " + key, f, 2, 1, 0, 4, 0);
+            Edges.duePresses("6 round the key " + key, f, 0, 3, 2, 2, 1);
+            Edges.dueState("6 no key " + key, f, 2, 1, 0, 4, 0);
         }
-        FastestRun f = onBoard(4, 2);
+        Desk f = Desk.onBoard(4, 2);
         f.cell(1, 0, 2);
         f.cell(2, 0, 3);
         f.cell(3, 0, 4);
-        duePresses("6 all keys", f, 0, 2, 2, 2);
-        dueState("6 all keys", f, 3, 0, 7, 3, 0);
+        Edges.duePresses("6 all keys", f, 0, 2, 2, 2);
+        Edges.dueState("6 all keys", f, 3, 0, 7, 3, 0);
     }
 
     private static void promise6Foe() {
-        FastestRun f = onBoard(4, 2);
+        Desk f = Desk.onBoard(4, 2);
         f.foe(2, 0);
-        duePresses("6 beside a foe that stands", f, 0, 2);
-        duePresses("6 onto it", f, 1, 2);
-        dueState("6 onto it", f, 2, 0, 0, 2, 1);
-        duePresses("6 caught is over", f, NONE, 0);
+        Edges.duePresses("6 beside a foe that stands", f, 0, 2);
+        Edges.duePresses("6 onto it", f, 1, 2);
+        Edges.dueState("6 onto it", f, 2, 0, 0, 2, 1);
+        Edges.duePresses("6 caught is over", f, NONE, 0);
         f.cell(2, 0, 8);
-        duePresses("6 caught on the goal", f, 0, 2);
-        duePresses("6 caught on the goal", f, 1, 2);
+        Edges.duePresses("6 caught on the goal", f, 0, 2);
+        Edges.duePresses("6 caught on the goal", f, 1, 2);
         f.cell(2, 0, 2);
-        duePresses("6 caught on a key", f, 0, 2);
-        duePresses("6 caught on a key", f, 1, 2);
-        dueState("6 the key isn't taken", f, 2, 0, 0, 2, 1);
-        FastestRun g = onBoard(4, 2);
+        Edges.duePresses("6 caught on a key", f, 0, 2);
+        Edges.duePresses("6 caught on a key", f, 1, 2);
+        Edges.dueState("6 the key isn't taken", f, 2, 0, 0, 2, 1);
+        Desk g = Desk.onBoard(4, 2);
         g.foe(1, 0);
         g.foe(0, 0);
-        duePresses("6 past each other", g, 1, 2);
-        dueState("6 past each other", g, 1, 0, 0, 1, 1);
+        Edges.duePresses("6 past each other", g, 1, 2);
+        Edges.dueState("6 past each other", g, 1, 0, 0, 1, 1);
         g.begin();
-        duePresses("6 it comes", g, 1, 0);
+        Edges.duePresses("6 it comes", g, 1, 0);
         g.begin();
-        duePresses("6 aside", g, 0, 3);
-        FastestRun h = onBoard(4, 2);
+        Edges.duePresses("6 aside", g, 0, 3);
+        Desk h = Desk.onBoard(4, 2);
         h.foe(0, 0);
         h.foe(1, 0);
         h.foe(2, 0);
-        duePresses("6 from one cell to one cell", h, 1, 2);
+        Edges.duePresses("6 from one cell to one cell", h, 1, 2);
         h.begin();
-        duePresses("6 behind it", h, 0, 0, 2);
-        duePresses("6 it is at the first again", h, 1, 4);
+        Edges.duePresses("6 behind it", h, 0, 0, 2);
+        Edges.duePresses("6 it is at the first again", h, 1, 4);
     }
 
     private static void promise7State() {
-        FastestRun f = onBoard(5, 4);
+        Desk f = Desk.onBoard(5, 4);
         f.cell(3, 3, 4);
         f.foe(4, 1);
         f.foe(0, 3);
         f.start(3, 2);
-        duePresses("7", f, 0, 3);
+        Edges.duePresses("7", f, 0, 3);
         int[] want = {3, 3, 4, 1, 0, 0, 3};
         for (int what = 0; what < want.length; what++) {
             Check.due("7 state " + what, f.state(what), want[what]);
@@ -327,13 +292,13 @@ public final class PromiseTests {
         for (int wrong : new int[] {-1, 7, MIN, MAX}) {
             Check.due("7 state " + wrong, f.state(wrong), NONE);
         }
-        FastestRun g = onBoard(2, 2);
+        Desk g = Desk.onBoard(2, 2);
         Check.due("7 no foe x", g.state(5), NONE);
         Check.due("7 no foe y", g.state(6), NONE);
     }
 
     private static void promise8Save() {
-        FastestRun f = onBoard(4, 2);
+        Desk f = Desk.onBoard(4, 2);
         for (int wrong : new int[] {-1, 4, MIN, MAX}) {
             Check.due("8 save " + wrong, f.save(wrong), false);
         }
@@ -366,7 +331,7 @@ public final class PromiseTests {
     }
 
     private static void promise9Back() {
-        FastestRun f = onBoard(4, 2);
+        Desk f = Desk.onBoard(4, 2);
         f.cell(1, 0, 2);
         f.cell(3, 0, 8);
         f.foe(0, 1);
@@ -374,36 +339,36 @@ public final class PromiseTests {
         for (int place : new int[] {-1, 0, 3, 4, MIN, MAX}) {
             Check.due("9 back " + place, f.back(place), false);
         }
-        duePresses("9", f, 0, 2);
+        Edges.duePresses("9", f, 0, 2);
         f.save(0);
-        duePresses("9", f, 0, 2);
-        duePresses("9", f, 2, 2);
+        Edges.duePresses("9", f, 0, 2);
+        Edges.duePresses("9", f, 2, 2);
         f.save(1);
         Check.due("9 none kept there", f.back(2), false);
-        dueState("9 nothing changed", f, 3, 0, 1, 3, 2);
+        Edges.dueState("9 nothing changed", f, 3, 0, 1, 3, 2);
         Check.due("9 back 0", f.back(0), true);
-        dueState("9 as it was", f, 1, 0, 1, 1, 0);
+        Edges.dueState("9 as it was", f, 1, 0, 1, 1, 0);
         Check.due("9 the foe as it was", f.state(5), 3);
-        claimAll(f, 2);
+        Edges.claimAll(f, 2);
         Check.due("9 the presses as they were", f.differs(), NONE);
         f.unclaim();
         f.back(1);
-        claimAll(f, 2, 2, 2);
+        Edges.claimAll(f, 2, 2, 2);
         Check.due("9 all of the presses as they were", f.differs(), NONE);
         f.begin();
-        duePresses("9 other presses", f, 0, 4, 1, 0);
+        Edges.duePresses("9 other presses", f, 0, 4, 1, 0);
         f.back(1);
         Check.due("9 not the other ones", f.differs(), NONE);
         f.back(0);
         Check.due("9 fewer than the claim", f.differs(), 2);
-        duePresses("9 on from there", f, 0, 0);
+        Edges.duePresses("9 on from there", f, 0, 0);
         Check.due("9 what is kept stays as it was", f.back(0), true);
-        dueState("9 again", f, 1, 0, 1, 1, 0);
+        Edges.dueState("9 again", f, 1, 0, 1, 1, 0);
         Check.due("9 back to the end", f.back(1), true);
-        dueState("9 ended", f, 3, 0, 1, 3, 2);
-        duePresses("9 over", f, NONE, 0);
+        Edges.dueState("9 ended", f, 3, 0, 1, 3, 2);
+        Edges.duePresses("9 over", f, NONE, 0);
         f.start(3, 0);
-        duePresses("9 onto where the foe comes", f, 1, 3);
+        Edges.duePresses("9 onto where the foe comes", f, 1, 3);
         f.save(3);
         f.begin();
         Check.due("9 back to caught", f.back(3), true);
@@ -411,76 +376,76 @@ public final class PromiseTests {
     }
 
     private static void promise10Begin() {
-        FastestRun f = onBoard(3, 2);
+        Desk f = Desk.onBoard(3, 2);
         f.cell(2, 1, 2);
         f.foe(0, 0);
         f.foe(0, 1);
         f.start(1, 1);
-        claimAll(f, 1, 2);
+        Edges.claimAll(f, 1, 2);
         f.split(0, 0, 0, 0);
-        duePresses("10", f, 0, 2);
+        Edges.duePresses("10", f, 0, 2);
         f.save(0);
         f.begin();
-        dueState("10 anew", f, 1, 1, 0, 0, 0);
+        Edges.dueState("10 anew", f, 1, 1, 0, 0, 0);
         Check.due("10 the foe anew", f.state(6), 0);
         Check.due("10 the claim stays", f.count(3), 2);
         Check.due("10 splits stay", f.count(4), 1);
         Check.due("10 no presses", f.differs(), 1);
         Check.due("10 what is kept stays", f.back(0), true);
-        dueState("10 kept", f, 2, 1, 1, 1, 0);
+        Edges.dueState("10 kept", f, 2, 1, 1, 1, 0);
         f.begin();
-        duePresses("10", f, 1, 4);
+        Edges.duePresses("10", f, 1, 4);
         f.begin();
-        dueState("10 no more caught", f, 1, 1, 0, 0, 0);
+        Edges.dueState("10 no more caught", f, 1, 1, 0, 0, 0);
     }
 
     private static void promise11Least() {
-        FastestRun f = onBoard(3, 3);
+        Desk f = Desk.onBoard(3, 3);
         f.cell(2, 2, 8);
         Check.due("11 open", f.least(), 4);
-        dueBest("11 the first row", f, 2, 2, 3, 3);
-        dueState("11 the state stays", f, 0, 0, 0, 0, 0);
-        duePresses("11", f, 0, 3, 2);
+        Edges.dueRow("11 the first row", f, 2, 2, 3, 3);
+        Edges.dueState("11 the state stays", f, 0, 0, 0, 0, 0);
+        Edges.duePresses("11", f, 0, 3, 2);
         Check.due("11 from the state at hand", f.least(), 2);
-        dueBest("11 from the state at hand", f, 2, 3);
-        duePresses("11", f, 0, 2);
-        duePresses("11", f, 2, 3);
+        Edges.dueRow("11 from the state at hand", f, 2, 3);
+        Edges.duePresses("11", f, 0, 2);
+        Edges.duePresses("11", f, 2, 3);
         Check.due("11 ended", f.least(), 0);
-        dueBest("11 ended", f);
+        Edges.dueRow("11 ended", f);
         f.cell(1, 2, 8);
         Check.due("11 the nearer goal", f.least(), 3);
-        dueBest("11 the nearer goal", f, 2, 3, 3);
+        Edges.dueRow("11 the nearer goal", f, 2, 3, 3);
         f.cell(1, 2, 1);
         f.cell(2, 1, 1);
         Check.due("11 walled in", f.least(), NONE);
-        dueBest("11 walled in", f);
+        Edges.dueRow("11 walled in", f);
         f.cell(2, 1, 6);
         Check.due("11 a door without its key", f.least(), NONE);
         f.cell(0, 2, 2);
         Check.due("11 the wrong key", f.least(), NONE);
         f.cell(0, 2, 3);
         Check.due("11 key, door, goal", f.least(), 6);
-        dueBest("11 key, door, goal", f, 3, 3, 1, 2, 2, 3);
+        Edges.dueRow("11 key, door, goal", f, 3, 3, 1, 2, 2, 3);
     }
 
     private static void promise11LeastEdges() {
-        FastestRun f = onBoard(3, 2);
+        Desk f = Desk.onBoard(3, 2);
         f.cell(0, 0, 8);
         Check.due("11 begun on the goal", f.least(), 1);
-        dueBest("11 begun on the goal", f, 0);
+        Edges.dueRow("11 begun on the goal", f, 0);
         f.cell(0, 0, 0);
         f.cell(2, 0, 8);
         f.foe(1, 1);
         f.foe(1, 0);
         Check.due("11 a tick waited", f.least(), 3);
-        dueBest("11 a tick waited", f, 0, 2, 2);
-        duePresses("11", f, 1, 2);
+        Edges.dueRow("11 a tick waited", f, 0, 2, 2);
+        Edges.duePresses("11", f, 1, 2);
         Check.due("11 caught", f.least(), NONE);
-        dueBest("11 caught", f);
+        Edges.dueRow("11 caught", f);
         f.begin();
-        duePresses("11", f, 0, 0);
+        Edges.duePresses("11", f, 0, 0);
         Check.due("11 by where the foe is", f.least(), 2);
-        FastestRun g = onBoard(3, 2);
+        Desk g = Desk.onBoard(3, 2);
         g.cell(2, 0, 8);
         g.foe(2, 0);
         Check.due("11 the foe on the goal", g.least(), NONE);
@@ -488,11 +453,11 @@ public final class PromiseTests {
         g.foe(2, 0);
         g.foe(2, 1);
         Check.due("11 gone from it at tick 3", g.least(), 3);
-        dueBest("11 gone from it at tick 3", g, 0, 2, 2);
-        duePresses("11", g, 0, 0, 0, 0);
+        Edges.dueRow("11 gone from it at tick 3", g, 0, 2, 2);
+        Edges.duePresses("11", g, 0, 0, 0, 0);
         Check.due("11 gone from it in the next round", g.least(), 4);
-        dueBest("11 gone from it in the next round", g, 0, 0, 2, 2);
-        FastestRun h = onBoard(8, 8);
+        Edges.dueRow("11 gone from it in the next round", g, 0, 0, 2, 2);
+        Desk h = Desk.onBoard(8, 8);
         h.cell(7, 7, 8);
         for (int i = 0; i < 490; i++) {
             h.press(0);
@@ -501,27 +466,27 @@ public final class PromiseTests {
     }
 
     private static void promise12Best() {
-        FastestRun f = onBoard(3, 2);
-        dueBest("12 no least yet", f);
+        Desk f = Desk.onBoard(3, 2);
+        Edges.dueRow("12 no least yet", f);
         f.cell(2, 1, 8);
         f.least();
         for (int wrong : new int[] {-1, 3, MIN, MAX}) {
             Check.due("12 best " + wrong, f.best(wrong), NONE);
         }
-        dueBest("12", f, 2, 2, 3);
+        Edges.dueRow("12", f, 2, 2, 3);
         f.press(3);
-        dueBest("12 as it was then", f, 2, 2, 3);
+        Edges.dueRow("12 as it was then", f, 2, 2, 3);
         f.cell(1, 0, 1);
         f.foe(0, 1);
-        dueBest("12 in another game", f, 2, 2, 3);
+        Edges.dueRow("12 in another game", f, 2, 2, 3);
         f.board(2, 2);
-        dueBest("12 on another board", f, 2, 2, 3);
+        Edges.dueRow("12 on another board", f, 2, 2, 3);
         Check.due("12 the latest", f.least(), NONE);
-        dueBest("12 the latest", f);
+        Edges.dueRow("12 the latest", f);
     }
 
     private static void promise13Claim() {
-        FastestRun f = onBoard(2, 2);
+        Desk f = Desk.onBoard(2, 2);
         for (int wrong : new int[] {-1, 5, MIN, MAX}) {
             Check.due("13 claim " + wrong, f.claim(wrong), NONE);
         }
@@ -535,9 +500,9 @@ public final class PromiseTests {
     }
 
     private static void promise14Unclaim() {
-        FastestRun f = onBoard(2, 2);
+        Desk f = Desk.onBoard(2, 2);
         f.cell(1, 0, 8);
-        claimAll(f, 3, 2);
+        Edges.claimAll(f, 3, 2);
         f.unclaim();
         Check.due("14 empty", f.count(3), 0);
         Check.due("14 plays nothing", f.prove(0), 4);
@@ -546,12 +511,12 @@ public final class PromiseTests {
     }
 
     private static void promise15Prove() {
-        FastestRun f = onBoard(3, 2);
+        Desk f = Desk.onBoard(3, 2);
         f.cell(2, 0, 8);
         f.cell(1, 0, 5);
         f.cell(0, 1, 2);
         Check.due("15 empty", f.prove(0), 4);
-        claimAll(f, 3, 1, 2);
+        Edges.claimAll(f, 3, 1, 2);
         Check.due("15 goes on", f.prove(3), 4);
         f.claim(2);
         f.press(3);
@@ -559,12 +524,12 @@ public final class PromiseTests {
         for (int ticks : new int[] {3, 5, 0, -1, MIN, MAX}) {
             Check.due("15 at another than " + ticks, f.prove(ticks), 1);
         }
-        dueState("15 the state stays", f, 0, 1, 1, 1, 0);
+        Edges.dueState("15 the state stays", f, 0, 1, 1, 1, 0);
         f.claim(4);
         Check.due("15 ahead of its last", f.prove(4), 2);
         Check.due("15 ahead of its last, 5 told", f.prove(5), 2);
         f.unclaim();
-        claimAll(f, 2, 2, 2, 2);
+        Edges.claimAll(f, 2, 2, 2, 2);
         Check.due("15 without the key", f.prove(4), 4);
         f.cell(1, 0, 0);
         Check.due("15 the game as it is now", f.prove(2), 2);
@@ -573,7 +538,7 @@ public final class PromiseTests {
         f.foe(2, 0);
         Check.due("15 caught", f.prove(2), 3);
         f.unclaim();
-        claimAll(f, 0, 2, 2);
+        Edges.claimAll(f, 0, 2, 2);
         Check.due("15 past the foe", f.prove(3), 0);
         f.start(1, 0);
         Check.due("15 from the beginning there is", f.prove(3), 3);
@@ -581,13 +546,13 @@ public final class PromiseTests {
         f.press(4);
         f.save(0);
         f.unclaim();
-        claimAll(f, 2);
+        Edges.claimAll(f, 2);
         Check.due("15 not from the state at hand", f.prove(1), 0);
         Check.due("15 the state at hand stays", f.state(0), 0);
     }
 
     private static void promise16Differs() {
-        FastestRun f = onBoard(3, 3);
+        Desk f = Desk.onBoard(3, 3);
         Check.due("16 both empty", f.differs(), NONE);
         f.claim(2);
         Check.due("16 the run has none", f.differs(), 1);
@@ -616,16 +581,16 @@ public final class PromiseTests {
         Check.due("16 refused presses don't count", f.differs(), 3);
         f.unclaim();
         Check.due("16 no claim", f.differs(), 1);
-        FastestRun g = onBoard(2, 2);
+        Desk g = Desk.onBoard(2, 2);
         g.cell(1, 0, 8);
-        claimAll(g, 2, 0);
+        Edges.claimAll(g, 2, 0);
         g.press(2);
         g.press(0);
         Check.due("16 nothing is pressed behind the end", g.differs(), 2);
     }
 
     private static void promise17Split() {
-        FastestRun f = onBoard(3, 2);
+        Desk f = Desk.onBoard(3, 2);
         int[][] wrong = {
             {-1, 0, 0, 1}, {3, 0, 0, 1}, {0, -1, 0, 1}, {0, 2, 0, 1}, {0, 0, -1, 1}, {0, 0, 0, 201},
             {0, 0, 2, 1}, {0, 0, 201, 201}, {0, 0, -2, -1}, {MIN, MAX, 0, 1}, {0, 0, MIN, MAX}, {0, 0, MAX, MIN}};
@@ -647,7 +612,7 @@ public final class PromiseTests {
     }
 
     private static void promise18Unsplit() {
-        FastestRun f = onBoard(3, 2);
+        Desk f = Desk.onBoard(3, 2);
         f.split(2, 1, 0, 0);
         f.split(0, 0, 0, 0);
         f.unsplit();
@@ -657,7 +622,7 @@ public final class PromiseTests {
         Check.due("18 only the new one", f.could(), 1);
     }
 
-    private static int couldOf(FastestRun f, int[]... splits) {
+    private static int couldOf(Desk f, int[]... splits) {
         f.unsplit();
         for (int[] s : splits) {
             f.split(s[0], s[1], s[2], s[3]);
@@ -666,7 +631,7 @@ public final class PromiseTests {
     }
 
     private static void promise19Could() {
-        FastestRun f = onBoard(4, 3);
+        Desk f = Desk.onBoard(4, 3);
         Check.due("19 none", couldOf(f), 0);
         Check.due("19 at the beginning", couldOf(f, new int[] {0, 0, 0, 0}), 1);
         Check.due("19 elsewhere at the beginning", couldOf(f, new int[] {1, 0, 0, 0}), 0);
@@ -690,7 +655,7 @@ public final class PromiseTests {
     }
 
     private static void promise19CouldEdges() {
-        FastestRun f = onBoard(4, 2);
+        Desk f = Desk.onBoard(4, 2);
         f.cell(1, 0, 8);
         f.cell(1, 1, 1);
         Check.due("19 on the goal as it ends", couldOf(f, new int[] {1, 0, 1, 9}, new int[] {1, 0, 1, 9}), 2);
@@ -698,7 +663,7 @@ public final class PromiseTests {
         Check.due("19 not past the goal", couldOf(f, new int[] {2, 0, 0, 200}), 0);
         f.start(1, 0);
         Check.due("19 begun on the goal", couldOf(f, new int[] {1, 0, 0, 0}, new int[] {2, 0, 1, 1}), 2);
-        FastestRun g = onBoard(3, 2);
+        Desk g = Desk.onBoard(3, 2);
         g.foe(1, 0);
         g.cell(1, 1, 1);
         Check.due("19 caught at that tick", couldOf(g, new int[] {1, 0, 0, 200}), 0);
@@ -709,7 +674,7 @@ public final class PromiseTests {
         Check.due("19 not sooner", couldOf(g, new int[] {1, 0, 1, 1}), 0);
         g.start(1, 0);
         Check.due("19 begun on the foe", couldOf(g, new int[] {1, 0, 0, 0}, new int[] {0, 0, 1, 1}), 2);
-        FastestRun h = onBoard(3, 2);
+        Desk h = Desk.onBoard(3, 2);
         h.cell(1, 0, 5);
         h.cell(1, 1, 1);
         Check.due("19 a closed door", couldOf(h, new int[] {2, 0, 0, 200}), 0);
@@ -727,7 +692,7 @@ public final class PromiseTests {
     }
 
     private static void promise19CouldAtTheEdge() {
-        FastestRun f = onBoard(8, 8);
+        Desk f = Desk.onBoard(8, 8);
         f.start(7, 3);
         Check.due("19 no step over the right edge", couldOf(f, new int[] {0, 4, 0, 7}), 0);
         Check.due("19 as far as it is", couldOf(f, new int[] {0, 4, 0, 8}), 1);
@@ -736,17 +701,17 @@ public final class PromiseTests {
         Check.due("19 as far as it is again", couldOf(f, new int[] {7, 2, 0, 8}), 1);
         f.start(3, 0);
         Check.due("19 no step over the upper edge", couldOf(f, new int[] {3, 7, 0, 6}), 0);
-        FastestRun g = onBoard(3, 3);
+        Desk g = Desk.onBoard(3, 3);
         for (int i = 0; i < 3; i++) {
             g.cell(i, 1, 1);
         }
         Check.due("19 no way round a wall, right", couldOf(g, new int[] {2, 2, 0, 200}), 0);
-        FastestRun h = onBoard(3, 3);
+        Desk h = Desk.onBoard(3, 3);
         for (int i = 0; i < 3; i++) {
             h.cell(1, i, 1);
         }
         Check.due("19 no way round a wall, below", couldOf(h, new int[] {2, 2, 0, 200}), 0);
-        FastestRun k = onBoard(8, 8);
+        Desk k = Desk.onBoard(8, 8);
         k.cell(1, 1, 8);
         k.cell(0, 1, 1);
         k.board(3, 3);
@@ -754,7 +719,7 @@ public final class PromiseTests {
     }
 
     private static void promise20Road() {
-        FastestRun f = new FastestRun();
+        Desk f = new Desk();
         int[][] wrong = {
             {-1, 0, 0, 0, 1, 8, 0, 1}, {10, 0, 0, 0, 1, 8, 0, 1}, {0, -1, 0, 0, 1, 8, 0, 1}, {0, 10, 0, 0, 1, 8, 0, 1},
             {0, 0, -1, 0, 1, 8, 0, 1}, {0, 0, 16, 0, 1, 8, 0, 1}, {0, 0, 0, -1, 1, 8, 0, 1}, {0, 0, 0, 16, 1, 8, 0, 1},
@@ -782,12 +747,12 @@ public final class PromiseTests {
         Check.due("20 forty", f.count(5), 40);
     }
 
-    private static int addRoad(FastestRun f, int[] r) {
+    private static int addRoad(Desk f, int[] r) {
         return f.road(r[0], r[1], r[2], r[3], r[4], r[5], r[6], r[7]);
     }
 
     private static void promise21Bar() {
-        FastestRun f = new FastestRun();
+        Desk f = new Desk();
         Check.due("21 no roads", f.bar(0, true), false);
         f.goal(1, 0);
         f.road(0, 1, 0, 0, 5, 8, 0, 0);
@@ -810,7 +775,7 @@ public final class PromiseTests {
     }
 
     private static void promise22Goal() {
-        FastestRun f = new FastestRun();
+        Desk f = new Desk();
         f.road(0, 3, 0, 5, 1, 8, 0, 0);
         int[][] wrong = {{-1, 0}, {10, 0}, {0, -1}, {0, 16}, {MIN, MAX}};
         for (int[] g : wrong) {
@@ -833,7 +798,7 @@ public final class PromiseTests {
     }
 
     private static void promise23Anew() {
-        FastestRun f = new FastestRun();
+        Desk f = new Desk();
         f.goal(1, 0);
         f.road(0, 1, 0, 0, 10, 8, 0, 0);
         Check.due("23 not allowed at first", f.chance(5, 3, 300), 0);
@@ -858,7 +823,7 @@ public final class PromiseTests {
     }
 
     private static void promise24Sure() {
-        FastestRun f = new FastestRun();
+        Desk f = new Desk();
         Check.due("24 met", f.sure(), 0);
         f.goal(4, 3);
         Check.due("24 no roads", f.sure(), NONE);
@@ -879,13 +844,13 @@ public final class PromiseTests {
         f.bar(4, true);
         f.bar(1, true);
         Check.due("24 no such way", f.sure(), NONE);
-        FastestRun g = new FastestRun();
+        Desk g = new Desk();
         for (int room = 8; room >= 0; room--) {
             g.road(room, room + 1, 0, 0, 100, 8, 0, 0);
         }
         g.goal(9, 0);
         Check.due("24 a long way, told from its end", g.sure(), 900);
-        FastestRun h = new FastestRun();
+        Desk h = new Desk();
         h.road(0, 1, 0, 0, 5, 8, 0, 0);
         h.road(1, 0, 0, 1, 5, 8, 0, 0);
         h.road(0, 2, 1, 0, 5, 8, 0, 0);
@@ -896,7 +861,7 @@ public final class PromiseTests {
     }
 
     private static void promise25Chance() {
-        FastestRun f = new FastestRun();
+        Desk f = new Desk();
         int[][] wrong = {{-1, 0, 0}, {10, 0, 0}, {0, -1, 0}, {0, 16, 0}, {0, 0, -1}, {0, 0, 301}, {MIN, MAX, MIN}, {0, 0, MAX}};
         for (int[] c : wrong) {
             Check.due("25 chance " + c[0] + " " + c[1] + " " + c[2], f.chance(c[0], c[1], c[2]), NONE);
@@ -925,7 +890,7 @@ public final class PromiseTests {
     }
 
     private static void promise25Cut() {
-        FastestRun f = new FastestRun();
+        Desk f = new Desk();
         f.goal(1, 0);
         f.road(0, 1, 0, 0, 1, 1, 0, 1);
         long want = 0;
@@ -937,7 +902,7 @@ public final class PromiseTests {
     }
 
     private static void promise26Choice() {
-        FastestRun f = new FastestRun();
+        Desk f = new Desk();
         int[][] wrong = {{-1, 0, 0}, {10, 0, 0}, {0, -1, 0}, {0, 16, 0}, {0, 0, -1}, {0, 0, 301}, {MAX, MIN, MAX}};
         for (int[] c : wrong) {
             Check.due("26 choice " + c[0] + " " + c[1] + " " + c[2], f.choice(c[0], c[1], c[2]), -3);
@@ -970,10 +935,10 @@ public final class PromiseTests {
     }
 
     private static void promise27Count() {
-        FastestRun f = onBoard(7, 3);
+        Desk f = Desk.onBoard(7, 3);
         f.foe(0, 0);
         f.foe(1, 0);
-        claimAll(f, 1, 2, 3);
+        Edges.claimAll(f, 1, 2, 3);
         f.split(0, 0, 0, 0);
         for (int i = 0; i < 5; i++) {
             f.road(0, 0, 0, 0, 1, 8, 0, 0);

@@ -11,7 +11,7 @@ import java.util.Set;
  * The document's words again, by other means than the program's and without care for speed: states
  * are played anew from their presses, and searches try all there is.
  */
-final class SlowModel {
+final class SlowModel implements Face {
     private static final int NONE = -1;
     private static final int[][] WAYS = {{0, 0}, {0, -1}, {1, 0}, {0, 1}, {-1, 0}};
 
@@ -96,7 +96,8 @@ final class SlowModel {
         return true;
     }
 
-    boolean board(int w, int h) {
+    @Override
+    public boolean board(int w, int h) {
         if (!within(w, 2, 8) || !within(h, 2, 8)) {
             return false;
         }
@@ -108,7 +109,8 @@ final class SlowModel {
         return told();
     }
 
-    boolean cell(int x, int y, int kind) {
+    @Override
+    public boolean cell(int x, int y, int kind) {
         if (!isCell(x, y) || !within(kind, 0, 8)) {
             return false;
         }
@@ -116,7 +118,8 @@ final class SlowModel {
         return told();
     }
 
-    boolean foe(int x, int y) {
+    @Override
+    public boolean foe(int x, int y) {
         if (!isCell(x, y) || round.size() == 6) {
             return false;
         }
@@ -124,7 +127,8 @@ final class SlowModel {
         return told();
     }
 
-    boolean start(int x, int y) {
+    @Override
+    public boolean start(int x, int y) {
         if (!isCell(x, y)) {
             return false;
         }
@@ -132,7 +136,8 @@ final class SlowModel {
         return told();
     }
 
-    int press(int press) {
+    @Override
+    public int press(int press) {
         if (!within(press, 0, 4) || now().how != 0 || presses.size() == 500) {
             return NONE;
         }
@@ -140,14 +145,16 @@ final class SlowModel {
         return now().how;
     }
 
-    int state(int what) {
+    @Override
+    public int state(int what) {
         At at = now();
         int[] foe = round.isEmpty() ? new int[] {NONE, NONE} : foeAt(at.tick);
         int[] answers = {at.x, at.y, at.keys, at.tick, at.how, foe[0], foe[1]};
         return within(what, 0, 6) ? answers[what] : NONE;
     }
 
-    boolean save(int place) {
+    @Override
+    public boolean save(int place) {
         if (!within(place, 0, 3)) {
             return false;
         }
@@ -155,7 +162,8 @@ final class SlowModel {
         return true;
     }
 
-    boolean back(int place) {
+    @Override
+    public boolean back(int place) {
         if (!kept.containsKey(place)) {
             return false;
         }
@@ -163,7 +171,8 @@ final class SlowModel {
         return true;
     }
 
-    void begin() {
+    @Override
+    public void begin() {
         presses = new ArrayList<>();
     }
 
@@ -173,7 +182,8 @@ final class SlowModel {
     }
 
     /** By ticks to the end, worked out from the end back; then the first press that is one nearer. */
-    int least() {
+    @Override
+    public int least() {
         latestRow = new ArrayList<>();
         At at = now();
         if (at.how != 0) {
@@ -234,11 +244,13 @@ final class SlowModel {
         return toEnd;
     }
 
-    int best(int k) {
+    @Override
+    public int best(int k) {
         return within(k, 0, latestRow.size() - 1) ? latestRow.get(k) : NONE;
     }
 
-    int claim(int press) {
+    @Override
+    public int claim(int press) {
         if (!within(press, 0, 4) || claim.size() == 400) {
             return NONE;
         }
@@ -246,11 +258,13 @@ final class SlowModel {
         return claim.size();
     }
 
-    void unclaim() {
+    @Override
+    public void unclaim() {
         claim.clear();
     }
 
-    int prove(int ticks) {
+    @Override
+    public int prove(int ticks) {
         At at = first();
         int played = 0;
         while (played < claim.size() && at.how == 0) {
@@ -263,7 +277,8 @@ final class SlowModel {
         return played < claim.size() ? 2 : at.tick == ticks ? 0 : 1;
     }
 
-    int differs() {
+    @Override
+    public int differs() {
         int both = Math.min(claim.size(), presses.size());
         for (int i = 0; i < both; i++) {
             if (!claim.get(i).equals(presses.get(i))) {
@@ -273,7 +288,8 @@ final class SlowModel {
         return claim.size() == presses.size() ? NONE : both + 1;
     }
 
-    int split(int x, int y, int a, int b) {
+    @Override
+    public int split(int x, int y, int a, int b) {
         if (!isCell(x, y) || !within(a, 0, 200) || !within(b, 0, 200) || a > b || splits.size() == 5) {
             return NONE;
         }
@@ -281,7 +297,8 @@ final class SlowModel {
         return splits.size();
     }
 
-    void unsplit() {
+    @Override
+    public void unsplit() {
         splits.clear();
     }
 
@@ -289,7 +306,8 @@ final class SlowModel {
     private record Seen(At at, int done) {
     }
 
-    int could() {
+    @Override
+    public int could() {
         int most = 0;
         Set<Seen> layer = new HashSet<>();
         addSeen(layer, first(), 0);
@@ -319,18 +337,21 @@ final class SlowModel {
         }
     }
 
-    int road(int[] r) {
+    @Override
+    public int road(int from, int to, int needs, int gives, int ticks, int odds, int failRoom, int failTicks) {
+        int[] r = {from, to, needs, gives, ticks, odds, failRoom, failTicks};
         boolean can = within(r[0], 0, 9) && within(r[1], 0, 9) && within(r[2], 0, 15) && within(r[3], 0, 15)
             && within(r[4], 1, 100) && within(r[5], 1, 8);
         boolean canFail = r[5] != 8;
         if (!can || (canFail && !(within(r[6], 0, 9) && within(r[7], 1, 100))) || roads.size() == 40) {
             return NONE;
         }
-        roads.add(r.clone());
+        roads.add(r);
         return roads.size() - 1;
     }
 
-    boolean bar(int road, boolean on) {
+    @Override
+    public boolean bar(int road, boolean on) {
         if (!within(road, 0, roads.size() - 1)) {
             return false;
         }
@@ -342,7 +363,8 @@ final class SlowModel {
         return true;
     }
 
-    boolean goal(int room, int things) {
+    @Override
+    public boolean goal(int room, int things) {
         if (!within(room, 0, 9) || !within(things, 0, 15)) {
             return false;
         }
@@ -350,7 +372,8 @@ final class SlowModel {
         return true;
     }
 
-    boolean anew(int newPrice) {
+    @Override
+    public boolean anew(int newPrice) {
         if (!within(newPrice, 0, 100)) {
             return false;
         }
@@ -367,7 +390,8 @@ final class SlowModel {
         return !barred.contains(road) && r[0] == room && (r[2] & ~things) == 0;
     }
 
-    int sure() {
+    @Override
+    public int sure() {
         PriorityQueue<int[]> queue = new PriorityQueue<>((p, q) -> Integer.compare(p[0], q[0]));
         Set<Integer> settled = new HashSet<>();
         queue.add(new int[] {0, 0, 0});
@@ -393,7 +417,8 @@ final class SlowModel {
         return within(room, 0, 9) && within(things, 0, 15) && within(left, 0, 300);
     }
 
-    long chance(int room, int things, int left) {
+    @Override
+    public long chance(int room, int things, int left) {
         return asked(room, things, left) ? chanceOf(room, things, left, new HashMap<>()) : NONE;
     }
 
@@ -426,7 +451,8 @@ final class SlowModel {
         return eighths / 8;
     }
 
-    int choice(int room, int things, int left) {
+    @Override
+    public int choice(int room, int things, int left) {
         if (!asked(room, things, left)) {
             return -3;
         }
@@ -445,7 +471,8 @@ final class SlowModel {
         return price != 0 && chanceOf(0, 0, left - price, known) > most ? -2 : chosen;
     }
 
-    int count(int what) {
+    @Override
+    public int count(int what) {
         int[] counts = {width(), height(), round.size(), claim.size(), splits.size(), roads.size()};
         return within(what, 0, 5) ? counts[what] : NONE;
     }
