@@ -113,6 +113,10 @@ public final class ClaimEdgeTests {
 
     private static void unclaimLeavesTheRest() {
         Check.sentence("Promise 14: The CLAIM is empty.");
+        Desk f = new Desk();
+        Twins.livedIn(f);
+        f.unclaim();
+        dueRestOfLivedIn(f, 0, 4);
         Twins.dueUnchanged("an empty claim: unclaim()", ClaimEdgeTests::livedInUnclaimed, d -> d.unclaim());
         Twins.dueUnchanged("a claim more, and unclaim()", ClaimEdgeTests::livedInUnclaimed, d -> {
             d.claim(3);
@@ -123,6 +127,20 @@ public final class ClaimEdgeTests {
     private static void livedInUnclaimed(Desk d) {
         Twins.livedIn(d);
         d.unclaim();
+    }
+
+    private static void dueRestOfLivedIn(Desk f, int claimed, int splits) {
+        int[] counts = {4, 3, 3, claimed, splits, 6};
+        for (int what = 0; what < counts.length; what++) {
+            Check.due("count(" + what + ")", f.count(what), counts[what]);
+        }
+        Edges.dueState("the state stays", f, 1, 0, 1, 4, 0);
+        Check.due("its presses stay: differs()", f.differs(), claimed + 1);
+        Check.due("could()", f.could(), splits);
+        Edges.dueRow("the row stays", f, 1, 2, 2, 2, 3);
+        Check.due("what is kept stays: back(0)", f.back(0), true);
+        Check.due("what is kept stays: back(2)", f.back(2), true);
+        Check.due("sure()", f.sure(), 21);
     }
 
     /** A board on which 2, 2 leads to the goal. */
@@ -421,6 +439,10 @@ public final class ClaimEdgeTests {
         Check.due("could()", f.could(), 0);
         Check.due("the first again: split(2, 2, 4, 4)", f.split(2, 2, 4, 4), 1);
         Check.due("nothing of the old ones: could()", f.could(), 1);
+        Desk g = new Desk();
+        Twins.livedIn(g);
+        g.unsplit();
+        dueRestOfLivedIn(g, 3, 0);
         Twins.dueUnchanged("none there: unsplit()", ClaimEdgeTests::livedInUnsplit, d -> d.unsplit());
         Twins.dueUnchanged("a split more, and unsplit()", ClaimEdgeTests::livedInUnsplit, d -> {
             d.split(0, 0, 0, 0);

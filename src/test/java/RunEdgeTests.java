@@ -43,6 +43,7 @@ public final class RunEdgeTests {
         leastAroundTheRound();
         leastAtEachPlaceOfTheRound();
         leastFarAway();
+        leastOfAllThereCanBe();
         firstOfSuchRows();
         leastChangesNothing();
         pressesOfTheRow();
@@ -873,6 +874,33 @@ public final class RunEdgeTests {
         Check.due("from the key: best(32)", f.best(32), 1);
         Check.due("its last press: best(65)", f.best(65), 4);
         Check.due("none behind it: best(66)", f.best(66), NONE);
+    }
+
+    /** All keys in corners, all doors in a row ahead of the goal, and a round of six. */
+    private static void leastOfAllThereCanBe() {
+        Check.sentence("Terms: LEAST, on 8 by 8 CELLS, with KEY 0 .. 2, DOOR 0 .. 2 and a ROUND of 6 CELLS");
+        Desk f = Desk.onBoard(8, 8);
+        int[][] cells = {
+            {7, 0, 2}, {7, 7, 3}, {0, 7, 4}, {2, 4, 5}, {3, 4, 6}, {4, 4, 7}, {5, 4, 8}, {3, 3, 1}, {4, 3, 1}, {5, 3, 1},
+            {3, 5, 1}, {4, 5, 1}, {5, 5, 1}, {6, 4, 1}};
+        for (int[] c : cells) {
+            f.cell(c[0], c[1], c[2]);
+        }
+        int[][] round = {{3, 1}, {4, 1}, {5, 1}, {5, 2}, {4, 2}, {3, 2}};
+        for (int[] c : round) {
+            f.foe(c[0], c[1]);
+        }
+        int[] row = {2, 2, 2, 2, 2, 2, 2, 3, 3, 3, 3, 3, 3, 3, 4, 4, 4, 4, 4, 4, 4, 1, 1, 1, 2, 2, 2, 2, 2};
+        Check.due("three corners and three doors: least()", f.least(), 29);
+        Edges.dueRow("three corners and three doors", f, row);
+        for (int i = 0; i < 28; i++) {
+            Check.due("press " + i + " of it", f.press(row[i]), 0);
+        }
+        Check.due("before its last: least()", f.least(), 1);
+        Check.due("its last press", f.press(row[28]), 2);
+        Edges.dueState("ended", f, 5, 4, 7, 29, 2);
+        f.cell(4, 4, 1);
+        Check.due("all is looked at in vain: least()", f.least(), NONE);
     }
 
     private static void firstOfSuchRows() {
