@@ -12,6 +12,7 @@ import java.util.Deque;
 import java.util.IdentityHashMap;
 import java.util.Set;
 import java.util.TreeSet;
+import java.util.regex.Matcher;
 import java.util.regex.Pattern;
 
 /** The face of the class, the rules of LANGUAGE.md that can be looked up, and the size of an object. */
@@ -24,12 +25,22 @@ public final class FormTests {
         "int split(int,int,int,int)", "void unsplit()", "int could()", "int road(int,int,int,int,int,int,int,int)",
         "boolean bar(int,boolean)", "boolean goal(int,int)", "boolean anew(int)", "int sure()",
         "long chance(int,int,int)", "int choice(int,int,int)", "int count(int)"};
+    private static final Pattern LIBRARY = Pattern.compile(
+        "Arrays\\.(copyOf|copyOfRange|fill)|System\\.arraycopy|(Math|Integer|Long)\\.\\w+(?<!Exact)");
+    private static final Set<Class<?>> STATIC_TYPES = Set.of(
+        int.class, long.class, boolean.class, char.class, String.class,
+        int[].class, long[].class, char[].class, byte[].class);
     private static final int MOST_PARTS = 100_000;
+    private static final int MOST_LINES = 60;
+    private static final int MOST_FIELDS = 20;
 
     public static void main(String[] args) throws IOException, IllegalAccessException {
         theFace();
         theClassesInside();
+        theFields();
         theWords();
+        theLibrary();
+        theLengths();
         theSize();
         Check.end();
     }
@@ -77,8 +88,14 @@ public final class FormTests {
         for (String call : FACE) {
             publicNames.add(call.substring(call.indexOf(' ') + 1, call.indexOf('(')));
         }
+        for (Method method : FastestRun.class.getDeclaredMethods()) {
+            boolean borrowed = Modifier.isPrivate(method.getModifiers()) && publicNames.contains(method.getName());
+            Check.due(method + " has a name of its own", borrowed, false);
+        }
         for (Class<?> inside : FastestRun.class.getDeclaredClasses()) {
             Check.due(inside + " is static", Modifier.isStatic(inside.getModifiers()), true);
+            Check.due(inside + " is not seen from outside", isOpen(inside.getModifiers()), false);
+            Check.due(inside + " has none inside", inside.getDeclaredClasses().length, 0);
             for (Method method : inside.getDeclaredMethods()) {
                 Check.due(method + " has a name of its own", publicNames.contains(method.getName()), false);
                 Check.due(method + " takes seven at most", method.getParameterCount() <= 7, true);
@@ -87,8 +104,77 @@ public final class FormTests {
         Check.due("twelve classes at most", FastestRun.class.getDeclaredClasses().length <= 11, true);
     }
 
+    private static boolean isOpen(int modifiers) {
+        return Modifier.isPublic(modifiers) || Modifier.isProtected(modifiers);
+    }
+
+    private static void theFields() {
+        dueFields(FastestRun.class);
+        for (Class<?> inside : FastestRun.class.getDeclaredClasses()) {
+            dueFields(inside);
+        }
+    }
+
+    private static void dueFields(Class<?> holder) {
+        int ofObjects = 0;
+        for (Field field : holder.getDeclaredFields()) {
+            if (!Modifier.isStatic(field.getModifiers())) {
+                ofObjects++;
+                continue;
+            }
+            Check.due(field + " is final", Modifier.isFinal(field.getModifiers()), true);
+            Check.due(field + " is a constant", STATIC_TYPES.contains(field.getType()), true);
+        }
+        Check.due(holder + " has few fields", ofObjects <= MOST_FIELDS, true);
+    }
+
+    /** The program without its comments; lines stay where they are. */
+    private static String code() throws IOException {
+        String text = Files.readString(PROGRAM).replaceAll("//[^\n]*", " ");
+        Matcher comments = Pattern.compile("(?s)/\\*.*?\\*/").matcher(text);
+        return comments.replaceAll(comment -> "\n".repeat((int) comment.group().lines().count() - 1));
+    }
+
+    private static void theLibrary() throws IOException {
+        Matcher calls = Pattern.compile("\\b(([A-Z]\\w*)\\.\\w+)\\(").matcher(code());
+        while (calls.find()) {
+            boolean allowed = isInside(calls.group(2)) || LIBRARY.matcher(calls.group(1)).matches();
+            Check.due("the program may call " + calls.group(1), allowed, true);
+        }
+    }
+
+    private static boolean isInside(String name) {
+        for (Class<?> inside : FastestRun.class.getDeclaredClasses()) {
+            if (inside.getSimpleName().equals(name)) {
+                return true;
+            }
+        }
+        return false;
+    }
+
+    /** A method begins with the line that opens a brace behind its parameters, and ends with the same indent. */
+    private static void theLengths() throws IOException {
+        String[] lines = code().split("\n");
+        Pattern opening = Pattern.compile("( {4}| {8})\\w[^=]*\\) \\{");
+        Pattern statement = Pattern.compile(" *(if|for|while|switch|do|else)\\b.*");
+        int methods = 0;
+        for (int i = 0; i < lines.length; i++) {
+            Matcher begin = opening.matcher(lines[i]);
+            if (!begin.matches() || statement.matcher(lines[i]).matches()) {
+                continue;
+            }
+            int end = i;
+            while (end < lines.length && !lines[end].equals(begin.group(1) + "}")) {
+                end++;
+            }
+            methods++;
+            Check.due(lines[i].trim() + " is short", end - i + 1 <= MOST_LINES, true);
+        }
+        Check.due("methods were found", methods > FACE.length, true);
+    }
+
     private static void theWords() throws IOException {
-        String text = Files.readString(PROGRAM).replaceAll("(?s)/\\*.*?\\*/", " ").replaceAll("//[^\n]*", " ");
+        String text = code();
         String[] banned = {
             "throw", "throws", "try", "catch", "synchronized", "assert", "package", "->", "::", "Random", "Thread",
             "hashCode", "toString", "equals", "float", "double", "static \\{", "Exact\\("};
